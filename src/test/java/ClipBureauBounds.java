@@ -17,7 +17,7 @@ public final class ClipBureauBounds {
     private static final String INDEX = "java.lang.IndexOutOfBoundsException";
     private static final String ARGUMENT = "java.lang.IllegalArgumentException";
     private static final String STATE = "java.lang.IllegalStateException";
-    private static final int PARTS = 8;
+    private static final int PARTS = 9;
 
     private static final Map<Made, List<String>> untouched = new HashMap<>();
     private static String sentence = "";
@@ -197,18 +197,20 @@ public final class ClipBureauBounds {
             case 0:
                 return "" + x.digest();
             case 1:
-                return each(articles, a -> each(4, what -> x.told(a, what)) + " " + each(x.told(a, 0), p -> x.word(a, p)));
+                return each(articles, a -> each(4, what -> x.told(a, what)));
             case 2:
-                return each(clients, c -> each(6, what -> x.about(c, what)) + " " + each(x.about(c, 1), p -> x.stem(c, p))
-                    + " " + each(articles, a -> x.score(c, a)));
+                return each(articles, a -> each(x.told(a, 0), place -> x.word(a, place)));
             case 3:
+                return each(clients, c -> all(each(6, what -> x.about(c, what)),
+                    each(x.about(c, 1), place -> x.stem(c, place)), each(articles, a -> x.score(c, a))));
+            case 4:
                 return each(clients, c -> each(x.about(c, 5), p -> x.fit(c, p)) + " "
                     + all(x.advise(c), x.foresee(1, c), x.foresee(2, c), x.foresee(30, c)));
-            case 4:
-                return all(each(7, x::count), each(20, x::rarity), x.until(), x.mean());
             case 5:
-                return each(articles, a -> each(a + 1, b -> x.alike(a, b)));
+                return all(each(7, x::count), each(20, x::rarity), x.until(), x.mean());
             case 6:
+                return each(articles, a -> each(a + 1, b -> x.alike(a, b)));
+            case 7:
                 return each(40, w -> x.setStem(w, 0));
             default:
                 return goOn(x, articles, clients);
@@ -421,7 +423,8 @@ public final class ClipBureauBounds {
             (x, v) -> all(x.write(v, 3), each(16, a -> x.told(a, 0))), v -> "1 " + each(16, a -> a == v ? 1 : 0));
         sentence("each has at most 12 words, in their order (none, at first)");
         due("none at first", "0 0 " + INDEX, EMPTY, x -> all(x.print(), x.told(0, 0), tried(() -> x.word(0, 0))));
-        due("twelve and one", "1 2 3 4 5 6 7 8 9 10 11 12 " + STATE + " 39 36 33 30 27 24 21 18 15 12 9 6", EMPTY, x -> {
+        String twelve = all(each(12, i -> i + 1), STATE, each(12, i -> 39 - 3 * i));
+        due("twelve and one", twelve, EMPTY, x -> {
             x.print();
             return all(each(12, i -> x.write(0, 39 - 3 * i)), tried(() -> x.write(0, 3)), each(12, p -> x.word(0, p)));
         });
@@ -483,7 +486,8 @@ public final class ClipBureauBounds {
         sentence("wants up to 5 different stems, in the order in which they were told");
         due("five", "19 0 7 3 11 5", ClipBureauBounds::fiveStems, x -> all(each(5, p -> x.stem(1, p)), x.about(1, 1)));
         due("a sixth", STATE, ClipBureauBounds::fiveStems, x -> x.want(1, 4));
-        due("none at first", "0 " + INDEX, ClipBureauBounds::fiveStems, x -> all(x.about(0, 1), tried(() -> x.stem(0, 0))));
+        due("none at first", "0 " + INDEX, ClipBureauBounds::fiveStems,
+            x -> all(x.about(0, 1), tried(() -> x.stem(0, 0))));
         due("five of each of six", "5 5 5 5 5 5", FULL, x -> each(6, c -> x.about(c, 1)));
         sentence("has been sent articles (none, at first)");
         due("none at first", "0 0", EMPTY, x -> {
@@ -709,7 +713,8 @@ public final class ClipBureauBounds {
     private static void sending() {
         sentence("Sending to a client: the best one of its fit articles, if there is one");
         due("no articles", "-1 9 0", EMPTY, x -> all(client(x, 9, 0).send(0), x.about(0, 0), x.count(5)));
-        due("none is fit", "-1 9 0", EMPTY, x -> all(client(bureauInto(x, row(0)), 9, 11, 0).send(0), x.about(0, 0), x.count(5)));
+        due("none is fit", "-1 9 0", EMPTY,
+            x -> all(client(bureauInto(x, row(0)), 9, 11, 0).send(0), x.about(0, 0), x.count(5)));
         due("all were sent", "0 -1 7 1", EMPTY,
             x -> all(client(bureauInto(x, row(0)), 9, 0, 0).send(0), x.send(0), x.about(0, 0), x.count(5)));
         sentence("and the client has so many coins as its price: it pays, and the article was sent to it");
@@ -748,7 +753,8 @@ public final class ClipBureauBounds {
         staysSent("twelve words", sent, x -> again(10, () -> x.write(0, 0)));
         staysSent("a word struck out", sent, x -> x.strike(0, 1));
         staysSent("all words struck out", sent, x -> all(x.strike(0, 0), x.strike(0, 0)));
-        staysSent("words struck out and written", sent, x -> all(x.strike(0, 0), x.strike(0, 0), x.write(0, 0), x.write(0, 0)));
+        staysSent("words struck out and written", sent,
+            x -> all(x.strike(0, 0), x.strike(0, 0), x.write(0, 0), x.write(0, 0)));
         staysSent("a stem set", sent, x -> x.setStem(0, 7));
         staysSent("a stem wanted", sent, x -> x.want(0, 1));
         staysSent("a stem dropped", sent, x -> x.drop(0, 0));
@@ -873,8 +879,9 @@ public final class ClipBureauBounds {
         due("again behind a strike", STATE + " 39 12 " + STATE, ClipBureauBounds::twelveWords, x -> all(
             tried(() -> x.write(1, 5)), x.strike(1, 0), x.write(1, 5), tried(() -> x.write(1, 5))));
         sentence("4: IndexOutOfBoundsException is named first");
-        bounds("a wrong word for a full article", INDEX, FULL, 0, -1, (x, v) -> x.write(0, v < 0 ? v : v + 40), v -> "");
-        refused("word 40 for a full article", INDEX, FULL, x -> x.write(15, 40));
+        for (int word : new int[] {-1, 40, LOW, HIGH}) {
+            refused("word " + word + " for a full article", INDEX, FULL, x -> x.write(15, word));
+        }
         refused("no article and no word", INDEX, FULL, x -> x.write(16, 40));
         sentence("4: Adds a word to the end");
         due("behind the others", "5 0 1 2 39 7", SOME, x -> all(x.write(0, 7), each(5, p -> x.word(0, p))));
@@ -947,7 +954,8 @@ public final class ClipBureauBounds {
         bounds("stem", INDEX, six, 0, 19, (x, v) -> all(x.want(5, v), x.stem(5, 0)), v -> "1 " + v);
         refused("no client and no stem", INDEX, six, x -> x.want(6, 20));
         sentence("7: IllegalStateException if it wants 5");
-        due("up to five", "1 2 3 4 5 " + STATE, six, x -> all(each(5, i -> x.want(0, 19 - i)), tried(() -> x.want(0, 0))));
+        due("up to five", "1 2 3 4 5 " + STATE, six,
+            x -> all(each(5, i -> x.want(0, 19 - i)), tried(() -> x.want(0, 0))));
         for (int stem = 0; stem < 20; stem++) {
             int s = stem;
             refused("a sixth, " + s, STATE, five, x -> x.want(1, s));
@@ -984,8 +992,10 @@ public final class ClipBureauBounds {
         Made firstAndLast = () -> client(new ClipBureau(), 1, 20, 0, 19);
         due("stem 0", 0, firstAndLast, x -> x.drop(0, 0));
         due("stem 19", 1, firstAndLast, x -> x.drop(0, 19));
-        none("stem", INDEX, firstAndLast, (x, v) -> x.drop(0, v < 0 ? v : v + 20));
-        refused("stem 20", INDEX, five, x -> x.drop(1, 20));
+        for (int stem : new int[] {-1, 20, LOW, HIGH}) {
+            refused("stem " + stem, INDEX, firstAndLast, x -> x.drop(0, stem));
+            refused("stem " + stem + " of one that wants five", INDEX, five, x -> x.drop(1, stem));
+        }
         refused("no client and no stem", INDEX, five, x -> x.drop(3, 20));
         sentence("8: IllegalStateException if it does not want it");
         for (int stem = 0; stem < 20; stem++) {
@@ -1210,7 +1220,8 @@ public final class ClipBureauBounds {
                 return all(x.about(0, 3), x.about(0, 4), x.about(0, 5), x.about(0, 0));
             });
         });
-        due("no articles", "0 0 0", ClipBureauBounds::sixClients, x -> all(x.about(5, 3), x.about(5, 4), x.about(5, 5)));
+        due("no articles", "0 0 0", ClipBureauBounds::sixClients,
+            x -> all(x.about(5, 3), x.about(5, 4), x.about(5, 5)));
         due("coins are those paid then, not the price now", "3 3", EMPTY, x -> {
             client(bureauInto(x, row(0, 0)), 9, 0, 0);
             x.send(0);
@@ -1384,7 +1395,8 @@ public final class ClipBureauBounds {
         sentence("22: Returns the stem, 0 to 19, with which its best fit article would score the most");
         for (int stem = 0; stem < 20; stem++) {
             int s = stem;
-            due("the only one that makes it fit, " + s, s, EMPTY, x -> client(bureau(times(2, 2 * s)), 0, 20).advise(0));
+            due("the only one that makes it fit, " + s, s, EMPTY,
+                x -> client(bureau(times(2, 2 * s)), 0, 20).advise(0));
             due("the best one, " + s, s, EMPTY, x -> {
                 client(bureauInto(x, times(3, 2 * s), row(10)), 0, 0);
                 return x.advise(0);
@@ -1531,7 +1543,7 @@ public final class ClipBureauBounds {
             client(bureauInto(x, row(0)), 2, 0, 0);
             return all(x.send(0), x.until());
         });
-        // 40 rounds can't be reached: in each, one whose best fit article can be paid is sent it, so sixteen are soon gone
+        // 40 can't be reached: whoever can pay its best fit article is sent it in the round, and there are but sixteen
         sentence("24: Returns behind how many rounds");
         for (int coins = 0; coins <= 40; coins++) {
             int n = coins;
@@ -1540,7 +1552,7 @@ public final class ClipBureauBounds {
         }
         due("the first of several", "2 2 1 0", ClipBureauBounds::sixteen, x -> {
             client(client(client(x, 99, 0), 9, 0), 8, 0);
-            return all(x.until(), behind(x.pay(2, 4), x.until()), behind(x.pass(1), x.until()), behind(x.pass(1), x.until()));
+            return all(x.until(), behind(x.pay(2, 4), x.until()), each(2, i -> behind(x.pass(1), x.until())));
         });
         sentence("24: -1 if not by then");
         due("nothing", -1, EMPTY, ClipBureau::until);
@@ -1601,7 +1613,8 @@ public final class ClipBureauBounds {
         due("articles alone", digestOf(ClipBureauBounds::sixteen, 0), ClipBureauBounds::sixteen, ClipBureau::digest);
         due("clients alone", digestOf(ClipBureauBounds::fiveStems, 0), ClipBureauBounds::fiveStems, ClipBureau::digest);
         sentence("26: all in their order");
-        due("two words the other way round", false, EMPTY, x -> bureau(row(0, 1)).digest() == bureau(row(1, 0)).digest());
+        due("two words the other way round", false, EMPTY,
+            x -> bureau(row(0, 1)).digest() == bureau(row(1, 0)).digest());
         due("two stems the other way round", false, EMPTY,
             x -> client(new ClipBureau(), 1, 1, 0, 1).digest() == client(new ClipBureau(), 1, 1, 1, 0).digest());
         due("a stem set and set back", true, EMPTY, x -> {

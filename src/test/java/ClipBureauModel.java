@@ -6,11 +6,13 @@ import java.util.Random;
 
 /**
  * Long runs of calls, the same ones on a ClipBureau and on a plain model of the document that shares
- * no code with it: every answer, every exception and the digest behind every call must be the same.
+ * no code with it: every answer, every exception and the digests in between must be the same.
  */
 public final class ClipBureauModel {
-    private static final int RUNS = 400;
-    private static final int CALLS = 512;
+    private static final int RUNS = 600;
+    // with the digests these are the 512 calls of one object; what it would answer behind them is free
+    private static final int CALLS = 384;
+    private static final int CALLS_PER_DIGEST = 3;
     private static final String[] NAMES = {
         "setStem", "print", "write", "strike", "client", "want", "drop", "setBar", "pay", "send", "pass", "told",
         "word", "about", "stem", "count", "rarity", "score", "fit", "alike", "advise", "foresee", "until", "mean",
@@ -47,7 +49,7 @@ public final class ClipBureauModel {
                     + got + ", due is " + due);
                 return false;
             }
-            if (bureau.digest() != model.digest()) {
+            if (i % CALLS_PER_DIGEST == 0 && bureau.digest() != model.digest()) {
                 System.out.println("run " + run + ", call " + i + ": the digest behind " + name + "(" + a + ", " + b
                     + ") is not as the model's");
                 return false;
