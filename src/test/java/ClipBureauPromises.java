@@ -391,7 +391,7 @@ public final class ClipBureauPromises {
         due("12: none", 0, () -> x.pass(30));
         due("12: rounds in all", 33, () -> x.count(4));
         due("12: their age", 33, () -> x.told(0, 2));
-        for (int rounds : new int[] {0, -1, 31, LOW, HIGH}) {
+        for (int rounds : new int[] {0, -1, 31, 1000, LOW}) {
             refused("12: rounds " + rounds, ARGUMENT, x, () -> x.pass(rounds));
         }
         ClipBureau y = new ClipBureau();
@@ -712,7 +712,7 @@ public final class ClipBureauPromises {
             return x.about(0, 0);
         });
         due("23: from then on", 90, () -> x.foresee(1, 0));
-        for (int rounds : new int[] {0, -1, 31, LOW, HIGH}) {
+        for (int rounds : new int[] {0, -1, 31, 1000, LOW}) {
             refused("23: rounds " + rounds, ARGUMENT, x, () -> x.foresee(rounds, 0));
             refused("23: no client, rounds " + rounds, ARGUMENT, x, () -> x.foresee(rounds, 2));
         }
