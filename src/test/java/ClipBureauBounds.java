@@ -910,6 +910,13 @@ public final class ClipBureauBounds {
         refused("no article and no word", INDEX, FULL, x -> x.write(16, 40));
         sentence("4: Adds a word to the end");
         due("behind the others", "5 0 1 2 39 7", SOME, x -> all(x.write(0, 7), each(5, p -> x.word(0, p))));
+        due("in the place of one struck out", "0 4 1 2 39 7", SOME,
+            x -> all(x.strike(0, 0), x.write(0, 7), each(4, p -> x.word(0, p))));
+        due("twelve in the places of twelve", each(12, p -> 28 + p), ClipBureauBounds::twelveWords, x -> {
+            again(12, () -> x.strike(1, 0));
+            each(12, p -> x.write(1, 28 + p));
+            return each(12, p -> x.word(1, p));
+        });
     }
 
     private static void promise5() {
